@@ -308,7 +308,6 @@ public final class StageLines {
     private static final class Source {
         private final Row basket;
         private int kind;
-        private int a;
         private int b;
         private int c;
         private int given;
@@ -318,13 +317,12 @@ public final class StageLines {
             this.basket = basket;
         }
 
-        void become(int newKind, int newA, int newB, int newC) {
+        void become(int newKind, int a, int newB, int newC) {
             kind = newKind;
-            a = newA;
             b = newB;
             c = newC;
             given = 0;
-            upcoming = newA;
+            upcoming = a;
         }
 
         /** How many elements there are, for a source that is not endless. */

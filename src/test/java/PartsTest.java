@@ -16,6 +16,7 @@ public final class PartsTest {
         endsInParts();
         wrongEnds();
         usedLines();
+        linesAreApart();
         CHECKS.end();
     }
 
@@ -193,5 +194,22 @@ public final class PartsTest {
         Checks.line(x, Checks.range(0, 40), Checks.op(2, 0, 4), Checks.op(2, 0, 4));
         CHECKS.refuses("9: spent", UnsupportedOperationException.class, () -> x.parts(0, 0, 0));
         CHECKS.refuses("9: spent is used", IllegalStateException.class, () -> x.run(0, 0, 0));
+    }
+
+    /** Nothing of a line, not even of a spent one, is left in the next one of the same object. */
+    private static void linesAreApart() {
+        StageLines x = new StageLines();
+        for (int turn = 0; turn < 2; turn++) {
+            Checks.line(x, Checks.range(1, 5), Checks.op(8, 2, 3), Checks.op(3, 0, 0));
+            CHECKS.due("9: WHILE and DISTINCT anew", x.parts(9, 0, 0), 2);
+            Checks.line(x, Checks.range(1, 5), Checks.op(4, 0, 0), Checks.op(4, 0, 0));
+            CHECKS.due("9: SORTED anew", x.parts(9, 0, 0), 5);
+            Checks.line(x, Checks.range(1, 5), Checks.op(9, 2, 3), Checks.op(5, 0, 2), Checks.op(6, 0, 1));
+            CHECKS.due("9: FROM, LIMIT and SKIP anew", x.parts(1, 0, 0), 4);
+            Checks.line(x, Checks.range(0, 40), Checks.op(2, 0, 4), Checks.op(2, 0, 4));
+            CHECKS.refuses("9: spent each time", UnsupportedOperationException.class, () -> x.parts(0, 0, 0));
+            Checks.line(x, Checks.range(1, 5));
+            CHECKS.due("9: not spent", Checks.told(() -> x.parts(8, 0, 0)), "15");
+        }
     }
 }

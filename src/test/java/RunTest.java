@@ -17,6 +17,7 @@ public final class RunTest {
         the601stIsNotGiven();
         the600thIsEnough();
         seenIsOfTheLine();
+        linesAreApart();
         CHECKS.end();
     }
 
@@ -243,5 +244,22 @@ public final class RunTest {
         Checks.line(x, Checks.basket(), Checks.op(7, 0, 0));
         CHECKS.refuses("10: FIRST of none", NoSuchElementException.class, () -> x.run(4, 0, 0));
         CHECKS.due("10: has seen none", x.seen(0), 0);
+    }
+
+    /** Nothing of a line, not even of a spent one, is left in the next one of the same object. */
+    private static void linesAreApart() {
+        StageLines x = new StageLines();
+        for (int turn = 0; turn < 2; turn++) {
+            Checks.line(x, Checks.range(1, 5), Checks.op(8, 2, 3), Checks.op(3, 0, 0));
+            CHECKS.due("7: WHILE and DISTINCT anew", x.run(9, 0, 0), 2);
+            Checks.line(x, Checks.range(1, 5), Checks.op(4, 0, 0), Checks.op(4, 0, 0));
+            CHECKS.due("7: SORTED anew", x.run(9, 0, 0), 5);
+            Checks.line(x, Checks.range(1, 5), Checks.op(9, 2, 3), Checks.op(5, 0, 2), Checks.op(6, 0, 1));
+            CHECKS.due("7: FROM, LIMIT and SKIP anew", x.run(1, 0, 0), 4);
+            Checks.line(x, Checks.endless(1, 1, 1));
+            CHECKS.refuses("7: spent each time", UnsupportedOperationException.class, () -> x.run(0, 0, 0));
+            Checks.line(x, Checks.range(1, 5));
+            CHECKS.due("7: not spent", Checks.told(() -> x.run(8, 0, 0)), "15");
+        }
     }
 }
