@@ -262,13 +262,18 @@ public final class StageLines {
             insertAt(size, x);
         }
 
-        boolean holdsAscending(int x) {
-            int place = placeAscending(x);
-            return place < size && items[place] == x;
-        }
-
         void insertAscending(int x) {
             insertAt(placeAscending(x), x);
+        }
+
+        /** False, and nothing is inserted, if x is here already. */
+        boolean insertIfNew(int x) {
+            int place = placeAscending(x);
+            if (place < size && items[place] == x) {
+                return false;
+            }
+            insertAt(place, x);
+            return true;
         }
 
         void copyFrom(Row other) {
@@ -370,7 +375,7 @@ public final class StageLines {
                 case FILTER:
                     return passes(x, a, n);
                 case DISTINCT:
-                    return isNew(x);
+                    return held.insertIfNew(x);
                 case SORTED:
                     held.insertAscending(x);
                     return false;
@@ -430,14 +435,6 @@ public final class StageLines {
                 default:
                     return n == 0 ? 0 : x % n;
             }
-        }
-
-        private boolean isNew(int x) {
-            if (held.holdsAscending(x)) {
-                return false;
-            }
-            held.insertAscending(x);
-            return true;
         }
 
         private boolean hasFailed(int x) {

@@ -1,7 +1,11 @@
 /** What the tests share: answers and refusals that are due, counted, and told if they are not so. */
 final class Checks {
+    /** One after the other, and in parts. */
+    static final boolean[] BOTH_WAYS = {false, true};
+
     private int wrong = 0;
     private int made = 0;
+    private String sentence = "";
 
     interface Call {
         int answer();
@@ -9,6 +13,11 @@ final class Checks {
 
     interface Act {
         void go();
+    }
+
+    /** The document's sentence that the checks which follow are about; it is told with what is wrong. */
+    void sentence(String quoted) {
+        sentence = "[" + quoted + "] ";
     }
 
     void due(String what, int got, int want) {
@@ -51,7 +60,7 @@ final class Checks {
     void tell(String text) {
         wrong++;
         if (wrong <= 50) {
-            System.out.println(text);
+            System.out.println(sentence + text);
         }
     }
 
@@ -78,6 +87,23 @@ final class Checks {
             x.stage(s[0], s[1], s[2]);
         }
         return x;
+    }
+
+    /** Uses the line of x: the answer, or the name of what was thrown. */
+    static String ended(StageLines x, boolean inParts, int end, int a, int n) {
+        return told(() -> inParts ? x.parts(end, a, n) : x.run(end, a, n));
+    }
+
+    /** Uses the line of x up to a LIST: the elements, or the name of what was thrown. */
+    static String listed(StageLines x, boolean inParts) {
+        String answer = ended(x, inParts, 9, 0, 0);
+        String kept = keptOf(x);
+        boolean counted = answer.equals(Integer.toString(kept.isEmpty() ? 0 : kept.split(" ").length));
+        return counted ? kept : answer + " with " + kept;
+    }
+
+    static String way(boolean inParts) {
+        return inParts ? " in parts" : " one after the other";
     }
 
     static int[] basket() {
