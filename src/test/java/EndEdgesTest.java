@@ -193,6 +193,13 @@ public final class EndEdgesTest {
             Checks.line(x, Checks.range(8, 1));
             Checks.ended(x, !inParts, 10, 0, 2);
             CHECKS.due("a TALLY behind a TALLY", Checks.keptOf(x), "1 0");
+            for (int turn = 0; turn < 2; turn++) {
+                Checks.line(x, Checks.range(5, 9));
+                Checks.ended(x, inParts, 9, 0, 0);
+            }
+            Checks.line(x, Checks.range(5, 1));
+            CHECKS.due("a short TALLY behind long LISTs" + Checks.way(inParts), Checks.ended(x, inParts, 10, 0, 2), "1");
+            CHECKS.due("of which nothing is left" + Checks.way(inParts), Checks.keptOf(x), "0 1");
         }
     }
 

@@ -46,25 +46,40 @@ public final class FaceTest {
     }
 
     private static void checkInside() {
+        checkPrivateNames(StageLines.class);
+        checkStaticFields(StageLines.class);
+        for (Class<?> inside : StageLines.class.getDeclaredClasses()) {
+            CHECKS.due(inside + " is seen from outside", isSeenOutside(inside.getModifiers()) ? 1 : 0, 0);
+            checkPrivateNames(inside);
+            checkStaticFields(inside);
+        }
+    }
+
+    private static boolean isSeenOutside(int modifiers) {
+        return Modifier.isPublic(modifiers) || Modifier.isProtected(modifiers);
+    }
+
+    private static void checkPrivateNames(Class<?> owner) {
+        for (Method m : owner.getDeclaredMethods()) {
+            boolean taken = Modifier.isPrivate(m.getModifiers()) && publicNames().contains(m.getName());
+            CHECKS.due(m + " is private and has a name of the face", taken ? 1 : 0, 0);
+        }
+    }
+
+    private static void checkStaticFields(Class<?> owner) {
+        for (Field f : owner.getDeclaredFields()) {
+            boolean changes = Modifier.isStatic(f.getModifiers()) && !Modifier.isFinal(f.getModifiers());
+            CHECKS.due(f + " is static and not final", changes ? 1 : 0, 0);
+        }
+    }
+
+    private static Set<String> publicNames() {
         Set<String> names = new TreeSet<>();
         for (Method m : StageLines.class.getDeclaredMethods()) {
             if (Modifier.isPublic(m.getModifiers())) {
                 names.add(m.getName());
             }
         }
-        for (Class<?> inside : StageLines.class.getDeclaredClasses()) {
-            CHECKS.due(inside + " is static", Modifier.isStatic(inside.getModifiers()) ? 1 : 0, 1);
-            for (Method m : inside.getDeclaredMethods()) {
-                CHECKS.due(m + " has a name of the face", names.contains(m.getName()) ? 1 : 0, 0);
-            }
-            for (Field f : inside.getDeclaredFields()) {
-                CHECKS.due(f + " is static", Modifier.isStatic(f.getModifiers()) ? 1 : 0, 0);
-            }
-        }
-        for (Field f : StageLines.class.getDeclaredFields()) {
-            if (Modifier.isStatic(f.getModifiers())) {
-                CHECKS.due(f + " is final", Modifier.isFinal(f.getModifiers()) ? 1 : 0, 1);
-            }
-        }
+        return names;
     }
 }

@@ -11,6 +11,7 @@ public final class LineEdgesTest {
         aRangeOfB();
         endless();
         inPlaceOfTheOneThereIs();
+        nothingIsLeftOfTheOneThereWas();
         kindIsNotAsSaid();
         rangeIsNotAsSaid();
         numbersThatAreNotNamed();
@@ -97,6 +98,22 @@ public final class LineEdgesTest {
         Checks.line(x, Checks.endless(5, 2, 0), Checks.op(5, 0, 2)).run(0, 0, 0);
         Checks.line(x, Checks.endless(5, 2, 0), Checks.op(5, 0, 2));
         CHECKS.due("an endless one too", Checks.listed(x, false), "5 10");
+    }
+
+    private static void nothingIsLeftOfTheOneThereWas() {
+        CHECKS.sentence("4: A new line .. in place of the one there is: its stages begin anew");
+        int[][] remembering = {{3, 0, 0}, {4, 0, 0}, {5, 0, 2}, {6, 0, 2}, {8, 2, 3}, {9, 2, 3}};
+        String[] want = {"1 2 3 4", "1 2 3 4", "1 2", "3 4", "1 2", "3 4"};
+        for (boolean inParts : Checks.BOTH_WAYS) {
+            for (int i = 0; i < remembering.length; i++) {
+                StageLines x = new StageLines();
+                for (int turn = 1; turn <= 3; turn++) {
+                    Checks.line(x, Checks.range(1, 4), remembering[i]);
+                    CHECKS.due("op " + remembering[i][0] + ", line " + turn + Checks.way(inParts),
+                        Checks.listed(x, inParts), want[i]);
+                }
+            }
+        }
     }
 
     private static void kindIsNotAsSaid() {
