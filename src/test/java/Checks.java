@@ -1,3 +1,8 @@
+import java.lang.reflect.Method;
+import java.lang.reflect.Modifier;
+import java.util.Set;
+import java.util.TreeSet;
+
 /** What the tests share: answers and refusals that are due, counted, and told if they are not so. */
 final class Checks {
     /** One after the other, and in parts. */
@@ -150,5 +155,16 @@ final class Checks {
             text.append(what == 0 ? "" : " ").append(x.pooled(what));
         }
         return text.toString();
+    }
+
+    /** The names of the public methods, each once. */
+    static Set<String> faceNames() {
+        Set<String> names = new TreeSet<>();
+        for (Method m : StageLines.class.getDeclaredMethods()) {
+            if (Modifier.isPublic(m.getModifiers())) {
+                names.add(m.getName());
+            }
+        }
+        return names;
     }
 }

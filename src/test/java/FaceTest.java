@@ -61,7 +61,7 @@ public final class FaceTest {
 
     private static void checkPrivateNames(Class<?> owner) {
         for (Method m : owner.getDeclaredMethods()) {
-            boolean taken = Modifier.isPrivate(m.getModifiers()) && publicNames().contains(m.getName());
+            boolean taken = Modifier.isPrivate(m.getModifiers()) && Checks.faceNames().contains(m.getName());
             CHECKS.due(m + " is private and has a name of the face", taken ? 1 : 0, 0);
         }
     }
@@ -71,15 +71,5 @@ public final class FaceTest {
             boolean changes = Modifier.isStatic(f.getModifiers()) && !Modifier.isFinal(f.getModifiers());
             CHECKS.due(f + " is static and not final", changes ? 1 : 0, 0);
         }
-    }
-
-    private static Set<String> publicNames() {
-        Set<String> names = new TreeSet<>();
-        for (Method m : StageLines.class.getDeclaredMethods()) {
-            if (Modifier.isPublic(m.getModifiers())) {
-                names.add(m.getName());
-            }
-        }
-        return names;
     }
 }
